@@ -3,10 +3,15 @@ public final class ModelTest {
     private static final int RUNS = 700;
     private static final int CALLS = 140;
 
+    /** How a run begins: with a floor at rest, with one whose rounds are open, with trunks alone, or bare. */
+    private static final int CALM = 0;
+    private static final int ROUNDS = 1;
+    private static final int TRUNKS = 2;
+
     private long seed;
     private SwitchFloor floor;
     private Model model;
-    private int steady;
+    private int kind;
 
     public static void main(String[] args) {
         for (int run = 1; run <= RUNS; run++) {
@@ -20,9 +25,11 @@ public final class ModelTest {
         seed = number * 7919L;
         floor = new SwitchFloor();
         model = new Model();
-        steady = below(3);
-        if (steady == 0) {
+        kind = below(4);
+        if (kind == CALM || kind == ROUNDS) {
             wholeFloor();
+        } else if (kind == TRUNKS) {
+            allTrunks();
         }
         for (int call = 0; call < CALLS; call++) {
             change(call);
@@ -52,14 +59,30 @@ public final class ModelTest {
             int port = 1 + below(4);
             int other = below(6);
             int otherPort = 1 + below(4);
-            both("wire " + one + port + other + otherPort, () -> floor.wire(one, port, other, otherPort, 1),
-                    () -> model.wire(one, port, other, otherPort, 1));
+            int cost = kind == CALM ? 1 : costs();
+            both("wire " + one + port + other + otherPort, () -> floor.wire(one, port, other, otherPort, cost),
+                    () -> model.wire(one, port, other, otherPort, cost));
         }
         for (int i = 0; i < 6; i++) {
             int one = i;
             both("house", () -> floor.house(one, 0, one), () -> model.house(one, 0, one));
         }
-        both("beat", () -> floor.beat(12), () -> model.beat(12));
+        both("limit", () -> floor.limit(100), () -> model.limit(100));
+        int beats = kind == CALM ? 12 : 3;
+        both("beat", () -> floor.beat(beats), () -> model.beat(beats));
+        for (int i = 0; i < 6; i++) {
+            int from = i;
+            both("first send of " + from, () -> floor.send(from, 10, 0, 0), () -> model.send(from, 10, 0, 0));
+        }
+        compareAll(-1);
+    }
+
+    private void allTrunks() {
+        for (int i = 0; i < 30; i++) {
+            int one = i / 5;
+            int port = i % 5;
+            both("trunk", () -> done(() -> floor.trunk(one, port, 7, 1)), () -> done(() -> model.trunk(one, port, 7, 1)));
+        }
     }
 
     private void both(String call, Check.Call program, Check.Call document) {
@@ -67,19 +90,19 @@ public final class ModelTest {
     }
 
     private void change(int call) {
-        int kind = below(100);
+        int what = below(100);
         String at = "call " + call + ", ";
-        if (kind < 46) {
-            sendOrBeat(at, kind);
-        } else if (kind < 70) {
-            changeWires(at, kind);
+        if (what < 46) {
+            sendOrBeat(at, what);
+        } else if (what < 70) {
+            changeWires(at, what);
         } else {
-            changeSettings(at, kind);
+            changeSettings(at, what);
         }
     }
 
-    private void sendOrBeat(String at, int kind) {
-        if (kind < 32) {
+    private void sendOrBeat(String at, int what) {
+        if (what < 32) {
             int from = near(0, 9);
             int to = near(0, 10);
             int tag = below(2) == 0 ? 0 : near(0, 3);
@@ -92,18 +115,18 @@ public final class ModelTest {
         }
     }
 
-    private void changeWires(String at, int kind) {
+    private void changeWires(String at, int what) {
         int one = near(0, 5);
         int port = near(0, 4);
         int other = near(0, 5);
         int otherPort = near(0, 4);
         int cost = costs();
         int house = near(0, 9);
-        if (kind < 58) {
+        if (what < 58) {
             both(at + "wire(" + one + ", " + port + ", " + other + ", " + otherPort + ", " + cost + ")",
                     () -> floor.wire(one, port, other, otherPort, cost),
                     () -> model.wire(one, port, other, otherPort, cost));
-        } else if (kind < 67) {
+        } else if (what < 67) {
             both(at + "house(" + one + ", " + port + ", " + house + ")",
                     () -> floor.house(one, port, house), () -> model.house(one, port, house));
         } else {
@@ -111,27 +134,27 @@ public final class ModelTest {
         }
     }
 
-    private void changeSettings(String at, int kind) {
+    private void changeSettings(String at, int what) {
         int one = near(0, 5);
         int port = near(0, 4);
         int value = near(0, 15);
         int guard = below(2) == 0 ? 0 : near(0, 2);
         int lane = near(1, 3);
         int lanes = below(2) == 0 ? 7 : near(1, 7);
-        int limit = below(3) == 0 ? near(1, 100) : steady == 0 ? 100 : 1 + below(8);
-        if (kind < 74) {
+        int limit = below(3) == 0 ? near(1, 100) : kind <= ROUNDS ? 100 : 1 + below(8);
+        if (what < 74) {
             both(at + "rank(" + one + ", " + value + ")",
                     () -> floor.rank(one, value), () -> model.rank(one, value));
-        } else if (kind < 80) {
+        } else if (what < 80) {
             both(at + "shut(" + one + ", " + port + ")",
                     () -> floor.shut(one, port) ? 1 : 0, () -> model.shut(one, port) ? 1 : 0);
-        } else if (kind < 86) {
+        } else if (what < 86) {
             both(at + "guard(" + one + ", " + port + ", " + guard + ")",
                     () -> floor.guard(one, port, guard), () -> model.guard(one, port, guard));
-        } else if (kind < 89) {
+        } else if (what < 89) {
             both(at + "plain(" + one + ", " + port + ", " + lane + ")",
                     () -> done(() -> floor.plain(one, port, lane)), () -> done(() -> model.plain(one, port, lane)));
-        } else if (kind < 97) {
+        } else if (what < 97) {
             both(at + "trunk(" + one + ", " + port + ", " + lanes + ", " + lane + ")",
                     () -> done(() -> floor.trunk(one, port, lanes, lane)),
                     () -> done(() -> model.trunk(one, port, lanes, lane)));

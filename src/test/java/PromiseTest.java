@@ -177,6 +177,15 @@ public final class PromiseTest {
         Check.is("still waits", 0, floor.port(0, 1, 0));
         floor.beat(1);
         Check.is("open", 1, floor.port(0, 1, 0));
+        floor.free(0, 1);
+        floor.wire(0, 1, 1, 2, 1);
+        floor.beat(2);
+        floor.free(1, 2);
+        floor.wire(0, 1, 1, 2, 1);
+        floor.beat(2);
+        Check.is("a wire put anew waits anew", 0, floor.port(0, 1, 0) + floor.port(1, 2, 0));
+        floor.beat(1);
+        Check.is("and is open at both ends", 2, floor.port(0, 1, 0) + floor.port(1, 2, 0));
     }
 
     private static void promise4House() {
@@ -362,10 +371,9 @@ public final class PromiseTest {
         Check.is("its entries are gone", -1, floor.table(1, 1, 0));
         Check.is("others stay", 0, floor.table(1, 1, 1));
         Check.is("at the other end, too", 1, floor.table(0, 1, 1));
-        floor.beat(9);
-        Check.is("as by hand: it stays", 1, floor.port(1, 2, 2));
         floor.guard(1, 2, 0);
-        Check.is("also without guard", 1, floor.port(1, 2, 2));
+        floor.beat(9);
+        Check.is("as by hand: it stays, also without guard", 1, floor.port(1, 2, 2));
         SwitchFloor bothEnds = row(2, 1);
         bothEnds.guard(0, 1, 2);
         bothEnds.guard(1, 2, 2);
@@ -604,6 +612,7 @@ public final class PromiseTest {
         Check.is("it opened: emptied there", 0, floor.holds(2, 4));
         Check.is("and all that can be reached", 0, floor.holds(0, 4) + floor.holds(1, 4) + floor.holds(3, 4));
         Check.is("no other", 1, floor.holds(5, 4));
+        flushAheadOfStormsEnd();
         SwitchFloor cut = housedRow(3);
         cut.shut(1, 2);
         cut.wire(2, 3, 3, 3, 1);
@@ -612,6 +621,26 @@ public final class PromiseTest {
         cut.beat(3);
         Check.is("not behind a shut port", 1, cut.holds(0, 4));
         Check.is("this side of it", 0, cut.holds(1, 4));
+    }
+
+    /** A storm that ends in the beat in which tables are emptied still keeps that from going through its port. */
+    private static void flushAheadOfStormsEnd() {
+        SwitchFloor floor = housedRow(3);
+        floor.house(2, 3, 8);
+        floor.limit(1);
+        floor.send(2, 10, 0, 0);
+        floor.send(8, 10, 0, 0);
+        Check.is("a storm at 1, from 2", 1, floor.port(1, 1, 2));
+        floor.beat(2);
+        floor.send(1, 10, 0, 0);
+        floor.wire(0, 4, 3, 4, 1);
+        floor.beat(2);
+        Check.is("1 has heard its house", 1, floor.holds(1, 4));
+        floor.beat(1);
+        Check.is("the wire's port opened", 1, floor.port(0, 4, 0));
+        Check.is("the storm ended", 0, floor.port(1, 1, 2));
+        Check.is("emptied this side of it", 0, floor.holds(1, 4));
+        Check.is("kept behind it", 2, floor.holds(2, 4));
     }
 
     private static void promise11Ages() {
@@ -676,6 +705,7 @@ public final class PromiseTest {
         int floods = floor.port(0, 1, 3);
         Check.is("0 knows 4 behind the wire by which it comes", 0, floor.send(1, 4, 0, 0));
         Check.is("it does not go on to others", 0, floor.got(0, true) + floor.got(3, true));
+        Check.is("nor back", 0, floor.got(1, true));
         Check.is("and is no flood there", floods, floor.port(0, 1, 3));
         Check.is("but heard", 1, floor.table(0, 1, 1));
     }
@@ -745,10 +775,35 @@ public final class PromiseTest {
         Check.is("shut where it came in above the limit", 1, floor.port(1, 2, 2));
         Check.is("and in the other direction", 1, floor.port(5, 1, 2));
         Check.is("not where it came in at the limit", 0, floor.port(2, 2, 2) + floor.port(0, 2, 2));
+        manySteps();
         SwitchFloor calm = openRound();
         calm.beat(2);
         Check.is("the dear wire is given up", 0, calm.port(5, 1, 0));
         Check.is("each gets it once", 5, calm.send(0, 10, 0, 0));
+    }
+
+    /** Rounds within rounds, all open in the third beat: a frame would take 730 steps if it were let. */
+    private static void manySteps() {
+        SwitchFloor floor = new SwitchFloor();
+        floor.wire(5, 1, 3, 2, 49);
+        floor.wire(4, 3, 5, 2, 3);
+        floor.wire(1, 2, 0, 3, 51);
+        floor.wire(1, 1, 2, 2, 3);
+        floor.wire(3, 3, 1, 3, 19);
+        floor.wire(5, 4, 2, 4, 1);
+        floor.wire(5, 3, 3, 1, 40);
+        for (int one = 0; one < 6; one++) {
+            floor.house(one, 0, one);
+        }
+        floor.limit(100);
+        floor.beat(3);
+        int times = floor.send(0, 10, 0, 0);
+        int floods = 0;
+        for (int spot = 0; spot < 30; spot++) {
+            floods += floor.port(spot / 5, spot % 5, 3);
+        }
+        Check.is("each step of it is a flood: 400", 400, floods);
+        Check.is("all but the first give it to a house", 399, times);
     }
 
     private static void promise12FullTable() {
@@ -889,6 +944,28 @@ public final class PromiseTest {
         Check.is("a storm that would end and open a port", false, floor.isAtRest());
         floor.beat(1);
         Check.is("and did", true, floor.isAtRest());
+        hopsAlone();
+    }
+
+    /** By a late wire 4 changes to a like cheap way with more hops, over ports all open; 5 hears of it a beat later. */
+    private static void hopsAlone() {
+        SwitchFloor floor = new SwitchFloor();
+        floor.wire(0, 0, 2, 0, 2);
+        floor.wire(2, 1, 4, 1, 2);
+        floor.wire(4, 2, 1, 0, 1);
+        floor.wire(1, 1, 3, 0, 1);
+        floor.wire(4, 3, 5, 0, 1);
+        floor.beat(10);
+        Check.is("at rest without the late wire", true, floor.isAtRest());
+        floor.wire(0, 1, 3, 1, 2);
+        floor.beat(3);
+        Check.is("cost ahead of the last change", 5, floor.holds(5, 1));
+        Check.is("hops ahead of it", 3, floor.holds(5, 2));
+        Check.is("hops alone would change", false, floor.isAtRest());
+        floor.beat(1);
+        Check.is("the same cost", 5, floor.holds(5, 1));
+        Check.is("more hops", 4, floor.holds(5, 2));
+        Check.is("at rest with these", true, floor.isAtRest());
     }
 
     private static void promise18Found() {
@@ -953,34 +1030,71 @@ public final class PromiseTest {
         Check.is("one that is", 6, floor.walk(0, 5));
         floor.shut(4, 2);
         Check.is("a closed port at the far end", -1, floor.walk(0, 5));
-        endsElsewhere();
-        goesBack();
+        toItsOwnSwitch();
+        walksBack();
+        twelveSwitches();
     }
 
-    private static void endsElsewhere() {
+    private static void toItsOwnSwitch() {
         SwitchFloor floor = housedRow(2);
-        floor.house(0, 3, 7);
-        floor.send(7, 10, 0, 0);
-        floor.free(0, 3);
         floor.house(1, 3, 7);
         floor.send(7, 10, 0, 0);
         Check.is("one switch", 1, floor.walk(1, 7));
+        Check.is("two switches", 2, floor.walk(0, 7));
         floor.shut(0, 0);
         Check.is("from a closed port", -1, floor.walk(0, 7));
+        floor.shut(1, 3);
+        Check.is("to a closed port, whose entry is gone", -1, floor.walk(1, 7));
     }
 
-    /** Tables of two switches that point to one another, as a house moved without being heard. */
-    private static void goesBack() {
+    /** A house that moved is heard at its new switch alone: the other one sends a walk back where it came from. */
+    private static void walksBack() {
         SwitchFloor floor = housedRow(3);
         floor.send(2, 10, 0, 0);
         floor.free(2, 0);
+        Check.is("house 2 at no port", Check.BAD_STATE, Check.outcome(() -> floor.walk(0, 2)));
         floor.house(0, 3, 2);
-        Check.is("the old way ends where its port lost its house", -1, floor.walk(0, 2));
-        Check.is("heard by 0 alone", 0, floor.send(2, 0, 2, 0));
+        Check.is("the way ends where the port lost the house", -1, floor.walk(0, 2));
         floor.plain(0, 1, 2);
         floor.send(2, 10, 0, 0);
         floor.plain(0, 1, 1);
-        Check.is("from 1 to the old way", -1, floor.walk(1, 2));
-        Check.is("from 0 to the new one", 1, floor.walk(0, 2));
+        Check.is("heard where it is", 3, floor.table(0, 1, 2));
+        Check.is("but not elsewhere", 1, floor.table(1, 1, 2));
+        Check.is("from there", 1, floor.walk(0, 2));
+        Check.is("from elsewhere by the old way", -1, floor.walk(1, 2));
+        floor.free(1, 0);
+        floor.house(2, 3, 1);
+        floor.plain(1, 2, 2);
+        floor.send(1, 10, 0, 0);
+        floor.plain(1, 2, 1);
+        Check.is("1 knows both behind 2", 2, (floor.table(1, 1, 1) == 1 ? 1 : 0) + (floor.table(1, 1, 2) == 1 ? 1 : 0));
+        floor.send(2, 9, 0, 0);
+        Check.is("then all know 2", 3, floor.walk(1, 2));
+        Check.is("0 does not know 1", -1, floor.walk(2, 1));
+    }
+
+    /** Twice round: lane 3 becomes 1 from switch 0 to 1, and lane 1 becomes 2 from switch 5 to 0. */
+    private static void twelveSwitches() {
+        SwitchFloor floor = openRound();
+        for (int one = 0; one < 6; one++) {
+            floor.trunk(one, 1, 7, 1);
+            floor.trunk(one, 2, 7, 1);
+        }
+        floor.trunk(0, 1, 7, 3);
+        floor.trunk(0, 2, 7, 2);
+        floor.trunk(5, 1, 5, 1);
+        floor.house(0, 3, 9);
+        floor.house(5, 3, 7);
+        floor.house(5, 4, 8);
+        floor.plain(0, 3, 3);
+        floor.plain(5, 3, 2);
+        floor.plain(5, 4, 3);
+        floor.send(7, 10, 0, 0);
+        Check.is("lane 3 at 5 leads round", 1, floor.table(5, 3, 7));
+        Check.is("lane 1 at 5, too", 1, floor.table(5, 1, 7));
+        Check.is("lane 2 at 5 leads to the house", 3, floor.table(5, 2, 7));
+        Check.is("twelve switches", 12, floor.walk(9, 7));
+        Check.is("not thirteen", -1, floor.walk(8, 7));
+        Check.is("eleven", 11, floor.walk(1, 7));
     }
 }
