@@ -19,19 +19,30 @@ final class Check {
         part = name;
     }
 
-    /** The answer of a call, or the number of the exception that it throws; another exception ends the test. */
+    /** The answer of a call, or the number of the very exception that it throws; another one ends the test. */
     static long outcome(Call call) {
         try {
             return call.answer();
-        } catch (ArrayIndexOutOfBoundsException e) {
-            throw new AssertionError("the machine threw", e);
-        } catch (IndexOutOfBoundsException e) {
+        } catch (RuntimeException e) {
+            return numberOf(e);
+        }
+    }
+
+    private static long numberOf(RuntimeException thrown) {
+        if (thrown.getClass() == IndexOutOfBoundsException.class) {
             return OUT_OF_BOUNDS;
-        } catch (IllegalArgumentException e) {
+        }
+        if (thrown.getClass() == IllegalArgumentException.class) {
             return BAD_ARGUMENT;
-        } catch (IllegalStateException e) {
+        }
+        if (thrown.getClass() == IllegalStateException.class) {
             return BAD_STATE;
         }
+        throw new AssertionError("not an exception of the document", thrown);
+    }
+
+    static boolean isThrown(long outcome) {
+        return outcome == OUT_OF_BOUNDS || outcome == BAD_ARGUMENT || outcome == BAD_STATE;
     }
 
     static void is(String what, long due, long got) {

@@ -21,7 +21,7 @@ final class Dump {
         return text.append("rest ").append(floor.isAtRest()).append('\n').toString();
     }
 
-    private static void addSwitch(SwitchFloor floor, int one, StringBuilder text) {
+    static void addSwitch(SwitchFloor floor, int one, StringBuilder text) {
         text.append("switch ").append(one).append(": found ").append(floor.found(one)).append(" holds");
         for (int what = 0; what < 5; what++) {
             text.append(' ').append(floor.holds(one, what));

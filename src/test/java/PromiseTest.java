@@ -22,11 +22,9 @@ public final class PromiseTest {
         promise11Ties();
         promise11Waits();
         promise11Flush();
-        promise11Ages();
         promise12Send();
         promise12Storm();
         promise12Rounds();
-        promise12FullTable();
         promise13Holds();
         promise14Port();
         promise15Table();
@@ -49,39 +47,6 @@ public final class PromiseTest {
     private static long done(Runnable call) {
         call.run();
         return 0;
-    }
-
-    /** The switches 0 to count - 1 in a row, port 1 of each to port 2 of the next, all with the cost. */
-    private static SwitchFloor row(int count, int cost) {
-        SwitchFloor floor = new SwitchFloor();
-        for (int one = 0; one + 1 < count; one++) {
-            floor.wire(one, 1, one + 1, 2, cost);
-        }
-        return floor;
-    }
-
-    /** The row, with the house of the switch's number at port 0 of each, all ports open. */
-    private static SwitchFloor housedRow(int count) {
-        SwitchFloor floor = row(count, 1);
-        for (int one = 0; one < count; one++) {
-            floor.house(one, 0, one);
-        }
-        floor.beat(12);
-        return floor;
-    }
-
-    /**
-     * Six switches in a round, with a house each, all ports open in the third beat: the dear wire from 5 to 0 is
-     * given up when the fifth has told 5 that the way round is cheaper.
-     */
-    private static SwitchFloor openRound() {
-        SwitchFloor floor = row(6, 1);
-        floor.wire(5, 1, 0, 2, 100);
-        for (int one = 0; one < 6; one++) {
-            floor.house(one, 0, one);
-        }
-        floor.beat(3);
-        return floor;
     }
 
     // ---- the promises
@@ -146,7 +111,7 @@ public final class PromiseTest {
 
     private static void promise3Free() {
         Check.part("promise 3");
-        SwitchFloor floor = housedRow(3);
+        SwitchFloor floor = Floors.housedRow(3);
         floor.send(2, 10, 0, 0);
         floor.send(0, 10, 0, 0);
         Check.is("heard at 1 from 0", 2, floor.table(1, 1, 0));
@@ -218,7 +183,7 @@ public final class PromiseTest {
 
     private static void promise5Rank() {
         Check.part("promise 5");
-        SwitchFloor floor = row(3, 4);
+        SwitchFloor floor = Floors.row(3, 4);
         floor.beat(4);
         refused(floor, "switch 6", BOUNDS, () -> floor.rank(6, 0));
         refused(floor, "switch -1", BOUNDS, () -> floor.rank(-1, 16));
@@ -246,7 +211,7 @@ public final class PromiseTest {
 
     private static void promise6Shut() {
         Check.part("promise 6");
-        SwitchFloor floor = housedRow(3);
+        SwitchFloor floor = Floors.housedRow(3);
         floor.send(2, 10, 0, 0);
         refused(floor, "switch 6", BOUNDS, () -> floor.shut(6, 0) ? 1 : 0);
         refused(floor, "switch -1", BOUNDS, () -> floor.shut(-1, 0) ? 1 : 0);
@@ -290,7 +255,7 @@ public final class PromiseTest {
     }
 
     private static void endsGuardAndStorm() {
-        SwitchFloor floor = housedRow(2);
+        SwitchFloor floor = Floors.housedRow(2);
         floor.limit(1);
         floor.send(0, 10, 0, 0);
         floor.send(0, 10, 0, 0);
@@ -310,7 +275,7 @@ public final class PromiseTest {
 
     private static void promise7RootGuard() {
         Check.part("promise 7, root guard");
-        SwitchFloor floor = row(3, 1);
+        SwitchFloor floor = Floors.row(3, 1);
         floor.beat(6);
         refused(floor, "switch 6", BOUNDS, () -> floor.guard(6, 0, 3));
         refused(floor, "switch -1", BOUNDS, () -> floor.guard(-1, 0, 0));
@@ -356,7 +321,7 @@ public final class PromiseTest {
 
     private static void promise7HouseGuard() {
         Check.part("promise 7, house guard");
-        SwitchFloor floor = housedRow(2);
+        SwitchFloor floor = Floors.housedRow(2);
         floor.send(0, 10, 0, 0);
         floor.send(1, 10, 0, 0);
         floor.guard(0, 0, 2);
@@ -374,7 +339,7 @@ public final class PromiseTest {
         floor.guard(1, 2, 0);
         floor.beat(9);
         Check.is("as by hand: it stays, also without guard", 1, floor.port(1, 2, 2));
-        SwitchFloor bothEnds = row(2, 1);
+        SwitchFloor bothEnds = Floors.row(2, 1);
         bothEnds.guard(0, 1, 2);
         bothEnds.guard(1, 2, 2);
         bothEnds.beat(1);
@@ -444,7 +409,7 @@ public final class PromiseTest {
 
     private static void promise9TwoTags() {
         Check.part("promise 9, two tags");
-        SwitchFloor floor = housedRow(3);
+        SwitchFloor floor = Floors.housedRow(3);
         floor.plain(2, 0, 3);
         for (int one = 0; one < 3; one++) {
             floor.trunk(one, 1, 7, 1);
@@ -469,7 +434,7 @@ public final class PromiseTest {
 
     private static void promise10Limit() {
         Check.part("promise 10");
-        SwitchFloor floor = housedRow(2);
+        SwitchFloor floor = Floors.housedRow(2);
         refused(floor, "0", ARGUMENT, () -> floor.limit(0));
         refused(floor, "101", ARGUMENT, () -> floor.limit(101));
         Check.is("20 at first", 20, floor.limit(100));
@@ -511,7 +476,7 @@ public final class PromiseTest {
 
     private static void promise11Hops() {
         Check.part("promise 11, hops");
-        SwitchFloor floor = row(6, 1);
+        SwitchFloor floor = Floors.row(6, 1);
         floor.beat(6);
         Check.is("five hops", 5, floor.holds(5, 2));
         floor.rank(0, 0);
@@ -563,7 +528,7 @@ public final class PromiseTest {
 
     private static void promise11Waits() {
         Check.part("promise 11, waits");
-        SwitchFloor floor = row(2, 1);
+        SwitchFloor floor = Floors.row(2, 1);
         floor.beat(2);
         Check.is("second beat", 0, floor.port(0, 1, 0));
         floor.beat(1);
@@ -596,7 +561,7 @@ public final class PromiseTest {
 
     private static void promise11Flush() {
         Check.part("promise 11, flush");
-        SwitchFloor floor = housedRow(4);
+        SwitchFloor floor = Floors.housedRow(4);
         floor.send(0, 10, 0, 0);
         floor.house(5, 0, 5);
         floor.send(5, 10, 0, 0);
@@ -612,8 +577,7 @@ public final class PromiseTest {
         Check.is("it opened: emptied there", 0, floor.holds(2, 4));
         Check.is("and all that can be reached", 0, floor.holds(0, 4) + floor.holds(1, 4) + floor.holds(3, 4));
         Check.is("no other", 1, floor.holds(5, 4));
-        flushAheadOfStormsEnd();
-        SwitchFloor cut = housedRow(3);
+        SwitchFloor cut = Floors.housedRow(3);
         cut.shut(1, 2);
         cut.wire(2, 3, 3, 3, 1);
         cut.send(0, 10, 0, 0);
@@ -623,50 +587,9 @@ public final class PromiseTest {
         Check.is("this side of it", 0, cut.holds(1, 4));
     }
 
-    /** A storm that ends in the beat in which tables are emptied still keeps that from going through its port. */
-    private static void flushAheadOfStormsEnd() {
-        SwitchFloor floor = housedRow(3);
-        floor.house(2, 3, 8);
-        floor.limit(1);
-        floor.send(2, 10, 0, 0);
-        floor.send(8, 10, 0, 0);
-        Check.is("a storm at 1, from 2", 1, floor.port(1, 1, 2));
-        floor.beat(2);
-        floor.send(1, 10, 0, 0);
-        floor.wire(0, 4, 3, 4, 1);
-        floor.beat(2);
-        Check.is("1 has heard its house", 1, floor.holds(1, 4));
-        floor.beat(1);
-        Check.is("the wire's port opened", 1, floor.port(0, 4, 0));
-        Check.is("the storm ended", 0, floor.port(1, 1, 2));
-        Check.is("emptied this side of it", 0, floor.holds(1, 4));
-        Check.is("kept behind it", 2, floor.holds(2, 4));
-    }
-
-    private static void promise11Ages() {
-        Check.part("promise 11, ages");
-        SwitchFloor floor = housedRow(2);
-        floor.send(0, 1, 0, 0);
-        floor.beat(5);
-        floor.send(1, 10, 0, 0);
-        floor.beat(4);
-        Check.is("nine beats", 2, floor.table(1, 1, 0));
-        floor.beat(1);
-        Check.is("ten beats", -1, floor.table(1, 1, 0));
-        Check.is("at the other, too", -1, floor.table(0, 1, 0));
-        Check.is("heard later", 0, floor.table(1, 1, 1));
-        floor.beat(4);
-        Check.is("nine from then", 0, floor.table(1, 1, 1));
-        floor.send(1, 10, 0, 0);
-        floor.beat(9);
-        Check.is("heard anew", 0, floor.table(1, 1, 1));
-        floor.beat(1);
-        Check.is("ten from that", 0, floor.holds(1, 4));
-    }
-
     private static void promise12Send() {
         Check.part("promise 12");
-        SwitchFloor floor = housedRow(3);
+        SwitchFloor floor = Floors.housedRow(3);
         floor.house(1, 3, 7);
         refused(floor, "from -1", BOUNDS, () -> floor.send(-1, 0, 0, 0));
         refused(floor, "from 10", BOUNDS, () -> floor.send(10, 10, 0, 0));
@@ -697,7 +620,7 @@ public final class PromiseTest {
     }
 
     private static void backByTheSamePort() {
-        SwitchFloor floor = housedRow(2);
+        SwitchFloor floor = Floors.housedRow(2);
         floor.house(0, 3, 3);
         floor.house(1, 3, 4);
         floor.send(4, 10, 0, 0);
@@ -711,7 +634,7 @@ public final class PromiseTest {
     }
 
     private static void byClosedEntry() {
-        SwitchFloor floor = housedRow(2);
+        SwitchFloor floor = Floors.housedRow(2);
         floor.send(1, 10, 0, 0);
         floor.plain(0, 1, 2);
         int floods = floor.port(0, 0, 3);
@@ -721,7 +644,7 @@ public final class PromiseTest {
 
     private static void promise12Storm() {
         Check.part("promise 12, storm");
-        SwitchFloor floor = housedRow(3);
+        SwitchFloor floor = Floors.housedRow(3);
         floor.limit(3);
         floor.send(2, 10, 0, 0);
         for (int i = 0; i < 3; i++) {
@@ -759,7 +682,7 @@ public final class PromiseTest {
 
     private static void promise12Rounds() {
         Check.part("promise 12, rounds");
-        SwitchFloor floor = openRound();
+        SwitchFloor floor = Floors.openRound();
         Check.is("twelve hops in both directions", 24, floor.send(0, 10, 0, 0));
         Check.is("the one that sent it gets it twice from each", 4, floor.got(0, false));
         Check.is("others, too", 4, floor.got(3, false));
@@ -775,66 +698,15 @@ public final class PromiseTest {
         Check.is("shut where it came in above the limit", 1, floor.port(1, 2, 2));
         Check.is("and in the other direction", 1, floor.port(5, 1, 2));
         Check.is("not where it came in at the limit", 0, floor.port(2, 2, 2) + floor.port(0, 2, 2));
-        manySteps();
-        SwitchFloor calm = openRound();
+        SwitchFloor calm = Floors.openRound();
         calm.beat(2);
         Check.is("the dear wire is given up", 0, calm.port(5, 1, 0));
         Check.is("each gets it once", 5, calm.send(0, 10, 0, 0));
     }
 
-    /** Rounds within rounds, all open in the third beat: a frame would take 730 steps if it were let. */
-    private static void manySteps() {
-        SwitchFloor floor = new SwitchFloor();
-        floor.wire(5, 1, 3, 2, 49);
-        floor.wire(4, 3, 5, 2, 3);
-        floor.wire(1, 2, 0, 3, 51);
-        floor.wire(1, 1, 2, 2, 3);
-        floor.wire(3, 3, 1, 3, 19);
-        floor.wire(5, 4, 2, 4, 1);
-        floor.wire(5, 3, 3, 1, 40);
-        for (int one = 0; one < 6; one++) {
-            floor.house(one, 0, one);
-        }
-        floor.limit(100);
-        floor.beat(3);
-        int times = floor.send(0, 10, 0, 0);
-        int floods = 0;
-        for (int spot = 0; spot < 30; spot++) {
-            floods += floor.port(spot / 5, spot % 5, 3);
-        }
-        Check.is("each step of it is a flood: 400", 400, floods);
-        Check.is("all but the first give it to a house", 399, times);
-    }
-
-    private static void promise12FullTable() {
-        Check.part("promise 12, full table");
-        SwitchFloor floor = new SwitchFloor();
-        for (int house = 0; house < 4; house++) {
-            floor.house(0, house, house);
-            floor.trunk(0, house, 7, 1);
-        }
-        for (int house = 0; house < 4; house++) {
-            floor.send(house, 10, 1, 0);
-            floor.send(house, 10, 2, 0);
-        }
-        Check.is("eight entries", 8, floor.holds(0, 4));
-        Check.is("the ninth is sent all the same", 3, floor.send(0, 10, 3, 0));
-        Check.is("but not taken", -1, floor.table(0, 3, 0));
-        Check.is("eight entries still", 8, floor.holds(0, 4));
-        floor.beat(5);
-        floor.send(0, 1, 1, 0);
-        floor.beat(5);
-        Check.is("one that it has is heard anew", 0, floor.table(0, 1, 0));
-        Check.is("the others are over", 1, floor.holds(0, 4));
-        floor.send(0, 10, 3, 0);
-        Check.is("there is room again", 0, floor.table(0, 3, 0));
-        floor.free(0, 0);
-        Check.is("both go with the house", 0, floor.holds(0, 4));
-    }
-
     private static void promise13Holds() {
         Check.part("promise 13");
-        SwitchFloor floor = housedRow(3);
+        SwitchFloor floor = Floors.housedRow(3);
         floor.send(0, 10, 0, 0);
         Check.is("root", 0, floor.holds(2, 0));
         Check.is("cost", 2, floor.holds(2, 1));
@@ -850,7 +722,7 @@ public final class PromiseTest {
 
     private static void promise14Port() {
         Check.part("promise 14");
-        SwitchFloor floor = housedRow(2);
+        SwitchFloor floor = Floors.housedRow(2);
         floor.send(0, 10, 0, 0);
         Check.is("open", 1, floor.port(0, 1, 0));
         Check.is("designated", 2, floor.port(0, 1, 1));
@@ -873,7 +745,7 @@ public final class PromiseTest {
 
     private static void promise15Table() {
         Check.part("promise 15");
-        SwitchFloor floor = housedRow(2);
+        SwitchFloor floor = Floors.housedRow(2);
         Check.is("none", -1, floor.table(1, 1, 0));
         floor.send(0, 10, 0, 0);
         Check.is("by the wire", 2, floor.table(1, 1, 0));
@@ -895,7 +767,7 @@ public final class PromiseTest {
 
     private static void promise16Got() {
         Check.part("promise 16");
-        SwitchFloor floor = housedRow(3);
+        SwitchFloor floor = Floors.housedRow(3);
         floor.send(0, 10, 0, 0);
         floor.send(0, 1, 0, 0);
         floor.send(0, 1, 0, 0);
@@ -911,7 +783,7 @@ public final class PromiseTest {
 
     private static void promise17Rest() {
         Check.part("promise 17");
-        SwitchFloor floor = row(2, 1);
+        SwitchFloor floor = Floors.row(2, 1);
         Check.is("a new wire", false, floor.isAtRest());
         floor.beat(1);
         Check.is("ports wait", false, floor.isAtRest());
@@ -944,28 +816,6 @@ public final class PromiseTest {
         Check.is("a storm that would end and open a port", false, floor.isAtRest());
         floor.beat(1);
         Check.is("and did", true, floor.isAtRest());
-        hopsAlone();
-    }
-
-    /** By a late wire 4 changes to a like cheap way with more hops, over ports all open; 5 hears of it a beat later. */
-    private static void hopsAlone() {
-        SwitchFloor floor = new SwitchFloor();
-        floor.wire(0, 0, 2, 0, 2);
-        floor.wire(2, 1, 4, 1, 2);
-        floor.wire(4, 2, 1, 0, 1);
-        floor.wire(1, 1, 3, 0, 1);
-        floor.wire(4, 3, 5, 0, 1);
-        floor.beat(10);
-        Check.is("at rest without the late wire", true, floor.isAtRest());
-        floor.wire(0, 1, 3, 1, 2);
-        floor.beat(3);
-        Check.is("cost ahead of the last change", 5, floor.holds(5, 1));
-        Check.is("hops ahead of it", 3, floor.holds(5, 2));
-        Check.is("hops alone would change", false, floor.isAtRest());
-        floor.beat(1);
-        Check.is("the same cost", 5, floor.holds(5, 1));
-        Check.is("more hops", 4, floor.holds(5, 2));
-        Check.is("at rest with these", true, floor.isAtRest());
     }
 
     private static void promise18Found() {
@@ -993,13 +843,13 @@ public final class PromiseTest {
         Check.is("without the wire", 0, floor.found(0));
         refused(floor, "switch 6", BOUNDS, () -> floor.found(6));
         refused(floor, "switch -1", BOUNDS, () -> floor.found(-1));
-        SwitchFloor far = row(6, 100);
+        SwitchFloor far = Floors.row(6, 100);
         Check.is("the longest way", 500, far.found(5));
     }
 
     private static void promise19Walk() {
         Check.part("promise 19");
-        SwitchFloor floor = housedRow(6);
+        SwitchFloor floor = Floors.housedRow(6);
         floor.house(2, 3, 7);
         floor.send(5, 10, 0, 0);
         floor.send(0, 10, 0, 0);
@@ -1032,11 +882,10 @@ public final class PromiseTest {
         Check.is("a closed port at the far end", -1, floor.walk(0, 5));
         toItsOwnSwitch();
         walksBack();
-        twelveSwitches();
     }
 
     private static void toItsOwnSwitch() {
-        SwitchFloor floor = housedRow(2);
+        SwitchFloor floor = Floors.housedRow(2);
         floor.house(1, 3, 7);
         floor.send(7, 10, 0, 0);
         Check.is("one switch", 1, floor.walk(1, 7));
@@ -1049,7 +898,7 @@ public final class PromiseTest {
 
     /** A house that moved is heard at its new switch alone: the other one sends a walk back where it came from. */
     private static void walksBack() {
-        SwitchFloor floor = housedRow(3);
+        SwitchFloor floor = Floors.housedRow(3);
         floor.send(2, 10, 0, 0);
         floor.free(2, 0);
         Check.is("house 2 at no port", Check.BAD_STATE, Check.outcome(() -> floor.walk(0, 2)));
@@ -1071,30 +920,5 @@ public final class PromiseTest {
         floor.send(2, 9, 0, 0);
         Check.is("then all know 2", 3, floor.walk(1, 2));
         Check.is("0 does not know 1", -1, floor.walk(2, 1));
-    }
-
-    /** Twice round: lane 3 becomes 1 from switch 0 to 1, and lane 1 becomes 2 from switch 5 to 0. */
-    private static void twelveSwitches() {
-        SwitchFloor floor = openRound();
-        for (int one = 0; one < 6; one++) {
-            floor.trunk(one, 1, 7, 1);
-            floor.trunk(one, 2, 7, 1);
-        }
-        floor.trunk(0, 1, 7, 3);
-        floor.trunk(0, 2, 7, 2);
-        floor.trunk(5, 1, 5, 1);
-        floor.house(0, 3, 9);
-        floor.house(5, 3, 7);
-        floor.house(5, 4, 8);
-        floor.plain(0, 3, 3);
-        floor.plain(5, 3, 2);
-        floor.plain(5, 4, 3);
-        floor.send(7, 10, 0, 0);
-        Check.is("lane 3 at 5 leads round", 1, floor.table(5, 3, 7));
-        Check.is("lane 1 at 5, too", 1, floor.table(5, 1, 7));
-        Check.is("lane 2 at 5 leads to the house", 3, floor.table(5, 2, 7));
-        Check.is("twelve switches", 12, floor.walk(9, 7));
-        Check.is("not thirteen", -1, floor.walk(8, 7));
-        Check.is("eleven", 11, floor.walk(1, 7));
     }
 }
