@@ -2,6 +2,8 @@ import java.io.IOException;
 import java.io.UncheckedIOException;
 import java.nio.file.Files;
 import java.nio.file.Path;
+import java.util.ArrayList;
+import java.util.List;
 
 /** Names the sentence of the document that a test is for, and checks that it stands there word by word. */
 final class Doc {
@@ -10,6 +12,16 @@ final class Doc {
     private static String page;
 
     private Doc() {
+    }
+
+    /** The lines of the public face, without the brace at its end. */
+    static List<String> face() {
+        String text = between("public final class SwitchFloor {", "} ## Terms");
+        List<String> lines = new ArrayList<>();
+        for (String line : text.split("(?<=[;{]) ")) {
+            lines.add(line.trim());
+        }
+        return lines;
     }
 
     /** A sentence of the terms, or of what stands ahead of them. */

@@ -5,11 +5,10 @@ import java.lang.reflect.Method;
 import java.lang.reflect.Modifier;
 import java.nio.file.Files;
 import java.nio.file.Path;
-import java.util.List;
 import java.util.Set;
 import java.util.TreeSet;
 
-/** The face is the document's, to the word, and the source keeps clear of what LANGUAGE.md leaves out. */
+/** The face is the document's, to the word, and what is inside is hidden. */
 public final class FaceTest {
     private static final String BOUNDS = " throws IndexOutOfBoundsException";
     private static final String ARGUMENT = ",IllegalArgumentException";
@@ -35,14 +34,11 @@ public final class FaceTest {
             "int found(int)" + BOUNDS,
             "int walk(int,int)" + BOUNDS + ARGUMENT + STATE);
 
-    private static final List<String> LEFT_OUT = List.of("import ", "package ", "->", "::", "finally", "synchronized",
-            "assert ", "record ", "instanceof", "catch", "try ", "System.", "Math.random", "toString", "hashCode");
-
     public static void main(String[] args) throws IOException {
         classIsAsDue();
         membersAreAsDue();
+        linesAreAsWritten();
         insideIsHidden();
-        sourceIsInTheLanguage();
         Check.end();
     }
 
@@ -63,7 +59,9 @@ public final class FaceTest {
         Check.part("face");
         Set<String> found = new TreeSet<>();
         for (Method method : SwitchFloor.class.getDeclaredMethods()) {
-            if (!Modifier.isPrivate(method.getModifiers()) && !method.isSynthetic()) {
+            if (Modifier.isPrivate(method.getModifiers())) {
+                Check.is(method.getName() + " bears a public name", false, isPublicName(method.getName()));
+            } else if (!method.isSynthetic()) {
                 Check.is(method.getName() + " is public", true, Modifier.isPublic(method.getModifiers()));
                 found.add(faceOf(method));
             }
@@ -82,6 +80,23 @@ public final class FaceTest {
                 Check.is(field.getName() + " is final", true, Modifier.isFinal(field.getModifiers()));
             }
         }
+    }
+
+    private static boolean isPublicName(String name) {
+        return DUE.stream().anyMatch(due -> due.contains(" " + name + "("));
+    }
+
+    /** Each line of the document's face stands in the source, with the names of its arguments. */
+    private static void linesAreAsWritten() throws IOException {
+        Check.part("lines");
+        String source = Files.readString(Path.of("src/main/java/SwitchFloor.java")).replaceAll("\\s+", " ");
+        int lines = 0;
+        for (String line : Doc.face()) {
+            lines++;
+            String due = line.endsWith(");") || line.contains(" throws ") ? line.replace(";", " {") : line;
+            Check.is("'" + due + "' stands in the source", true, source.contains(due));
+        }
+        Check.is("lines of the face", 22, lines);
     }
 
     private static String faceOf(Method method) {
@@ -108,18 +123,9 @@ public final class FaceTest {
             Check.is(inside.getName() + " hidden", false, Modifier.isPublic(bits) || Modifier.isProtected(bits));
             Check.is(inside.getName() + " static", true, Modifier.isStatic(bits));
             for (Method method : inside.getDeclaredMethods()) {
-                boolean taken = DUE.stream().anyMatch(due -> due.contains(" " + method.getName() + "("));
-                Check.is(inside.getName() + "." + method.getName() + " bears a public name", false, taken);
+                String name = inside.getName() + "." + method.getName();
+                Check.is(name + " bears a public name", false, isPublicName(method.getName()));
             }
         }
-    }
-
-    private static void sourceIsInTheLanguage() throws IOException {
-        Check.part("language");
-        String source = Files.readString(Path.of("src/main/java/SwitchFloor.java"));
-        for (String word : LEFT_OUT) {
-            Check.is("'" + word + "' stands in the source", false, source.contains(word));
-        }
-        Check.is("all signs are plain", true, source.chars().allMatch(sign -> sign < 128));
     }
 }
